@@ -478,7 +478,6 @@ public final class OrreryDials {
             super(number, pull);
         }
 
-        @Override
         long forceAt(long place) {
             return Reals.sum(true, pull, Reals.negated(place));
         }
@@ -491,7 +490,6 @@ public final class OrreryDials {
             super(number, pull);
         }
 
-        @Override
         long forceAt(long place) {
             return Reals.timesInt(pull, gear);
         }
@@ -503,7 +501,6 @@ public final class OrreryDials {
         }
 
         /** Two parts endless to opposite sides would be no number together: one endless part is enough. */
-        @Override
         long forceAt(long place) {
             long cranked = Reals.timesInt(pull, gear);
             if (!Reals.isFit(true, cranked)) {
@@ -613,19 +610,13 @@ public final class OrreryDials {
             return nearest(fine, negative, withMore(result, rest), exponent - 6 * FREE_BITS);
         }
 
-        /** Of a double that is fit and a whole number. */
+        /**
+         * Of a double that is fit and a gear or a count of pulls. 512 calls of four pulls are all that an
+         * object is used for, and a mantissa times 2048 fits into 64 bits, read without a sign.
+         */
         static long timesInt(long x, int n) {
             boolean negative = (x < 0) != (n < 0);
-            long mantissa = mantissa(true, x);
-            long times = Math.abs((long) n);
-            // The product may be longer than a long: its upper part and its lowest 32 bits.
-            long low = (mantissa & 0xffffffffL) * times;
-            long high = (mantissa >>> 32) * times + (low >>> 32);
-            low &= 0xffffffffL;
-            int cut = Math.max(0, lengthOf(high) - 30);
-            long product = (high << (32 - cut)) | (low >>> cut);
-            long rest = low & ((1L << cut) - 1);
-            return nearest(true, negative, withMore(product, rest), exponent(true, x) + cut);
+            return nearest(true, negative, mantissa(true, x) * Math.abs((long) n), exponent(true, x));
         }
 
         /** What is LEFT of x, which is fit, by y, a number that is not 0. */
@@ -642,10 +633,8 @@ public final class OrreryDials {
             return nearest(fine, x < 0, rest, exponent(fine, y));
         }
 
+        /** The least LONG is its own abs: read without a sign, that is its size. */
         static long ofLong(boolean fine, long whole) {
-            if (whole == Long.MIN_VALUE) {
-                return nearest(fine, true, 1, 63);
-            }
             return nearest(fine, whole < 0, Math.abs(whole), 0);
         }
 
@@ -671,7 +660,7 @@ public final class OrreryDials {
             return x < 0 ? -whole : whole;
         }
 
-        /** The one nearest to whole * 2^exponent, of two as near the even one; whole is not below 0. */
+        /** The one nearest to whole (read without a sign) * 2^exponent, of two as near the even one. */
         private static long nearest(boolean fine, boolean negative, long whole, int exponent) {
             if (whole == 0) {
                 return signed(fine, negative, 0);
@@ -689,7 +678,7 @@ public final class OrreryDials {
             return signed(fine, negative, size);
         }
 
-        /** The whole number nearest to whole / 2^cut, of two as near the even one. */
+        /** The whole number nearest to whole (read without a sign) / 2^cut, of two as near the even one. */
         private static long rounded(long whole, int cut) {
             if (cut <= 0) {
                 return whole << -cut;

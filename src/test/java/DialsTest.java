@@ -20,6 +20,7 @@ public final class DialsTest {
         }
         lowestBitsOfFloats();
         reckonedInTheirKind();
+        sumsToTheNearest();
         dialsAreApart();
         DUE.end();
     }
@@ -256,6 +257,31 @@ public final class DialsTest {
         x.dial(false, Due.bits(3f));
         x.turn(4, Due.bits(1e17f));
         DUE.due("laps of 1e17 by 3, float", x.laps(4), (long) (1e17f / 3f));
+    }
+
+    private static void sumsTo(boolean fine, double place, double a, double sum) {
+        OrreryDials x = with(fine, 8);
+        turned(x, fine, place, place, 0);
+        turned(x, fine, a, sum, 0);
+    }
+
+    /** Of two as near the one whose last bit is 0; but a bit more, however small, decides. */
+    private static void sumsToTheNearest() {
+        sumsTo(true, 1, 0x1p-53, 1);
+        sumsTo(true, 1, 0x1.0000000000001p-53, 0x1.0000000000001p0);
+        sumsTo(true, 0x1.0000000000001p0, 0x1p-53, 0x1.0000000000002p0);
+        sumsTo(true, 1, -0x1p-54, 1);
+        sumsTo(true, 1, -0x1.0000000000001p-54, 0x1.fffffffffffffp-1);
+        sumsTo(true, 1, Double.MIN_VALUE, 1);
+        sumsTo(true, 1, -Double.MIN_VALUE, 1);
+        sumsTo(true, Double.MIN_VALUE, -0x1p-1022, -0x1.ffffffffffffep-1023);
+        sumsTo(false, 1, 0x1p-24, 1);
+        sumsTo(false, 1, 0x1.000002p-24, 0x1.000002p0);
+        sumsTo(false, 0x1.000002p0, 0x1p-24, 0x1.000004p0);
+        sumsTo(false, 1, -0x1p-25, 1);
+        sumsTo(false, 1, -0x1.000002p-25, 0x1.fffffep-1);
+        sumsTo(false, 1, Float.MIN_VALUE, 1);
+        sumsTo(false, -1, Float.MIN_VALUE, -1);
     }
 
     private static void dialsAreApart() {

@@ -7,6 +7,7 @@ import java.nio.file.Files;
 import java.nio.file.Path;
 import java.util.Set;
 import java.util.TreeSet;
+import java.util.regex.Pattern;
 
 /** The public face of the document, and those rules of LANGUAGE.md that a program can look at. */
 public final class FaceTest {
@@ -22,10 +23,10 @@ public final class FaceTest {
     private static final Set<String> CONSTANTS = Set.of(
             "NONE -1", "NULL -11", "PLACE -12", "CAST -13", "STORE -14", "ENDLESS -15", "UNKNOWN -101",
             "OUTSIDE -102", "FULL -103");
-    private static final String[] RULED_OUT = {
-        "throw", "try", "catch", "synchronized", "assert", "import", "package", "protected", "double", "float",
-        "Float.", "Double.", "Exact", "->", "::", "System", "static {",
+    private static final String[] RULED_OUT_WORDS = {
+        "throw", "try", "catch", "synchronized", "assert", "package", "protected", "Float", "Double",
     };
+    private static final String[] RULED_OUT_TEXTS = {"Exact(", "->", "::", "static {"};
 
     public static void main(String[] args) throws IOException, IllegalAccessException {
         face();
@@ -102,10 +103,11 @@ public final class FaceTest {
         String code = Files.readString(path)
                 .replaceAll("(?s)/\\*.*?\\*/", "")
                 .replaceAll("//[^\n]*", "");
-        for (String word : RULED_OUT) {
-            boolean isName = Character.isLetter(word.charAt(0)) && Character.isLetter(word.charAt(word.length() - 1));
-            String pattern = isName && !word.equals("Exact") ? "\\b" + word + "\\b" : java.util.regex.Pattern.quote(word);
-            DUE.due("ruled out: " + word, !java.util.regex.Pattern.compile(pattern).matcher(code).find());
+        for (String word : RULED_OUT_WORDS) {
+            DUE.due("ruled out: " + word, !Pattern.compile("\\b" + word + "\\b").matcher(code).find());
+        }
+        for (String text : RULED_OUT_TEXTS) {
+            DUE.due("ruled out: " + text, !code.contains(text));
         }
     }
 }
