@@ -174,19 +174,18 @@ public final class OrreryDials {
         if (!isShaft(shaft) || turned == null) {
             return UNKNOWN;
         }
-        int pulled = 0;
         for (int i = 0; i < SHAFT_PLACES; i++) {
             Drive drive = shaftPlaces[shaft * SHAFT_PLACES + i];
             if (drive == null) {
-                continue;
+                failWith(NULL);
+                return i;
             }
             if (!drive.pullAt(turned)) {
                 failWith(ENDLESS);
-                return pulled;
+                return i;
             }
-            pulled++;
         }
-        return done(pulled);
+        return done(SHAFT_PLACES);
     }
 
     public int laid(int shaft, int i) {

@@ -19,6 +19,7 @@ public final class DrivesTest {
         lay();
         layFailing();
         wind();
+        windNull();
         windEndless();
         longWind();
         laid();
@@ -301,31 +302,58 @@ public final class DrivesTest {
 
     private static void wind() {
         OrreryDials x = withDials();
-        DUE.due("wind of an empty shaft", x.wind(0, 0), 0);
-        DUE.due("failed()", x.failed(), 0);
         int spring = fitted(x, 0, SPRING, 100);
         int crank = fitted(x, 1, CRANK, 5);
         int wheel = fitted(x, 2, FLYWHEEL, 2);
-        x.lay(0, 0, 1);
-        x.lay(0, 2, 0);
-        x.lay(0, 3, 2);
-        DUE.due("wind(0, 0)", x.wind(0, 0), 3);
+        layRow(x, 0, 1, 1, 0, 2);
+        DUE.due("wind(0, 0)", x.wind(0, 0), 4);
+        DUE.due("failed()", x.failed(), 0);
         standsAt(x, 0, 102);
-        DUE.due("wind(0, 0)", x.wind(0, 0), 3);
+        DUE.due("wind(0, 0)", x.wind(0, 0), 4);
         standsAt(x, 0, 104);
-        DUE.due("wind(1, 0)", x.wind(1, 0), 0);
-        standsAt(x, 0, 104);
-        x.lay(1, 1, 2);
-        x.lay(1, 3, 2);
-        DUE.due("the same one twice", x.wind(1, 1), 2);
-        standsAt(x, 1, 2 + 4 + 2 + 6);
+        layRow(x, 1, 2, 1, 2, 1);
+        DUE.due("the same ones twice", x.wind(1, 1), 4);
+        standsAt(x, 1, (2 + 4) + 5 + (2 + 6) + 5);
         DUE.due("pulls", x.pulls(wheel), 4);
         DUE.due("pulls", x.pulls(spring), 2);
-        DUE.due("pulls", x.pulls(crank), 2);
+        DUE.due("pulls", x.pulls(crank), 6);
         DUE.due("wind(2, 0)", x.wind(2, 0), OrreryDials.UNKNOWN);
         DUE.due("wind(-1, 0)", x.wind(-1, 0), OrreryDials.UNKNOWN);
         DUE.due("wind(0, 2)", x.wind(0, 2), OrreryDials.UNKNOWN);
         DUE.due("wind(0, -1)", x.wind(0, -1), OrreryDials.UNKNOWN);
+        DUE.due("no failure", x.about(2), 0);
+    }
+
+    private static void layRow(OrreryDials x, int shaft, int... slots) {
+        for (int i = 0; i < slots.length; i++) {
+            DUE.due("lay to place " + i, x.lay(shaft, i, slots[i]), 1);
+        }
+    }
+
+    /** A place without a drive fails and ends the winding, wherever it is. */
+    private static void windNull() {
+        for (int shaft = 0; shaft < 2; shaft++) {
+            OrreryDials x = withDials();
+            DUE.due("wind of an empty shaft", x.wind(shaft, 0), 0);
+            DUE.due("failed()", x.failed(), OrreryDials.NULL);
+            DUE.due("about(2)", x.about(2), 1);
+            int crank = fitted(x, 0, CRANK, 5);
+            for (int empty = 0; empty < 4; empty++) {
+                layRow(x, shaft, 0, 0, 0, 0);
+                x.lay(shaft, empty, 1);
+                int before = x.pulls(crank);
+                DUE.due("wind to place " + empty, x.wind(shaft, 1), empty);
+                DUE.due("failed()", x.failed(), OrreryDials.NULL);
+                DUE.due("about(2)", x.about(2), 2 + empty);
+                DUE.due("those ahead of it have pulled", x.pulls(crank), before + empty);
+                standsAt(x, 1, 5 * x.pulls(crank));
+            }
+            x.lay(shaft, 3, 0);
+            DUE.due("wind a full shaft", x.wind(shaft, 1), 4);
+            DUE.due("failed()", x.failed(), 0);
+            DUE.due("about(2)", x.about(2), 5);
+            DUE.due("about(6)", x.about(6), 0);
+        }
     }
 
     private static void windEndless() {
@@ -333,9 +361,7 @@ public final class DrivesTest {
         int weak = fitted(x, 0, CRANK, 1);
         int strong = fitted(x, 1, CRANK, 1e300);
         int last = fitted(x, 2, CRANK, 1);
-        x.lay(0, 0, 0);
-        x.lay(0, 2, 1);
-        x.lay(0, 3, 2);
+        layRow(x, 0, 0, 1, 2, 2);
         DUE.due("wind until one fails", x.wind(0, 0), 1);
         DUE.due("failed()", x.failed(), OrreryDials.ENDLESS);
         DUE.due("about(6)", x.about(6), 1);
@@ -343,9 +369,13 @@ public final class DrivesTest {
         DUE.due("pulls", x.pulls(weak), 1);
         DUE.due("the one that failed has pulled", x.pulls(strong), 1);
         DUE.due("the one behind it has not", x.pulls(last), 0);
-        DUE.due("wind a fine one", x.wind(0, 1), 3);
+        DUE.due("wind a fine one", x.wind(0, 1), 4);
         DUE.due("failed()", x.failed(), 0);
-        DUE.due("pulls", x.pulls(last), 1);
+        DUE.due("pulls", x.pulls(last), 2);
+        x.lay(0, 2, 3);
+        DUE.due("the first that fails ends it", x.wind(0, 0), 1);
+        DUE.due("failed()", x.failed(), OrreryDials.ENDLESS);
+        DUE.due("about(2)", x.about(2), 0);
     }
 
     /** A flywheel that pulled more often than 1024 times, with a mantissa that needs all its bits. */

@@ -84,7 +84,13 @@ public final class FailuresTest {
         failsWith(x, "lay to no place", x.lay(0, 4, 0), OrreryDials.PLACE);
         failsWith(x, "lay a spring", x.lay(1, 0, 0), OrreryDials.STORE);
         goesWell(x, "lay", x.lay(1, 0, 1), 1);
-        goesWell(x, "wind", x.wind(1, 0), 1);
+        DUE.due("wind", x.wind(1, 0), 1);
+        DUE.due("failed() after wind", x.failed(), OrreryDials.NULL);
+        for (int i = 1; i < 4; i++) {
+            x.lay(1, i, 1);
+        }
+        x.turn(0, most);
+        goesWell(x, "wind", x.wind(1, 0), 4);
         failsWith(x, "laid", x.laid(0, 4), OrreryDials.PLACE);
         goesWell(x, "laid", x.laid(1, 0), 1);
         failsWith(x, "write", x.write(1, true, 0, 0), OrreryDials.NULL);

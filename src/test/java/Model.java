@@ -168,8 +168,9 @@ final class Model {
         done(0);
         int count = 0;
         for (int drive : shaftDrive[shaft]) {
-            if (drive == -1 || failed != 0) continue;
-            if (pulled(drive, dial)) count++;
+            if (failed != 0) continue;
+            if (drive == -1) fail(-11);
+            else if (pulled(drive, dial)) count++;
             else fail(-15);
         }
         return count;

@@ -30,11 +30,31 @@ public final class ModelTest {
             drive();
             fit();
         }
+        // An empty place ends a winding: without full shafts hardly one would come to its last place.
+        if (numbers.coin()) {
+            layAll();
+        }
         // Each step asks nine calls at the most: a run stays below the document's 512.
         for (int i = 0; i < STEPS; i++) {
             step();
             look();
         }
+    }
+
+    private void layAll() {
+        for (int shaft = 0; shaft < 2; shaft++) {
+            for (int i = 0; i < 4; i++) {
+                lay(shaft, i, heldSlot());
+            }
+        }
+    }
+
+    private int heldSlot() {
+        int slot = numbers.below(6);
+        for (int tries = 0; tries < 6 && m.slotDrive[slot] == -1; tries++) {
+            slot = (slot + 1) % 6;
+        }
+        return slot;
     }
 
     private void step() {
@@ -169,7 +189,10 @@ public final class ModelTest {
     private void lay() {
         int shaft = numbers.below(20) == 0 ? numbers.below(4) - 1 : numbers.below(2);
         int i = numbers.below(10) == 0 ? numbers.below(6) - 1 : numbers.below(4);
-        int slot = slotNumber();
+        lay(shaft, i, slotNumber());
+    }
+
+    private void lay(int shaft, int i, int slot) {
         String call = "lay(" + shaft + ", " + i + ", " + slot + ")";
         due.due(call, x.lay(shaft, i, slot), m.lay(shaft, i, slot));
     }
