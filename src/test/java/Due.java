@@ -1,20 +1,35 @@
 /** Prints every answer that is not the one that is due, and ends the test with 1 if there was one. */
 final class Due {
-    private static final int MOST_PRINTED = 50;
+    /** Of one test. */
+    private static final int MOST_PRINTED = 20;
 
-    private final String test;
+    private final String name;
+    private String test;
     private int asked = 0;
     private int wrong = 0;
+    private int printed = 0;
 
-    Due(String test) {
-        this.test = test;
+    Due(String name) {
+        this.name = name;
+        this.test = name;
+    }
+
+    /** What is asked from now on belongs to that test. */
+    void test(String words) {
+        test = name + ", " + words;
+        printed = 0;
+    }
+
+    int asked() {
+        return asked;
     }
 
     void due(String call, long got, long want) {
         asked++;
         if (got != want) {
             wrong++;
-            if (wrong <= MOST_PRINTED) {
+            printed++;
+            if (printed <= MOST_PRINTED) {
                 System.out.println(test + ": " + call + " answered " + got + ", due is " + want);
             }
         }
@@ -29,7 +44,7 @@ final class Due {
     }
 
     void end() {
-        System.out.println(test + ": " + asked + " answers, " + wrong + " not as due");
+        System.out.println(name + ": " + asked + " answers, " + wrong + " not as due");
         if (wrong != 0 || asked == 0) {
             System.exit(1);
         }

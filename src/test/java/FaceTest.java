@@ -32,7 +32,7 @@ public final class FaceTest {
         face();
         constants();
         namesInside();
-        if (args.length == 1) {
+        if (args.length > 0) {
             source(Path.of(args[0]));
         }
         DUE.end();
