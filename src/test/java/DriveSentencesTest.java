@@ -178,6 +178,7 @@ public final class DriveSentencesTest extends Sentences {
             pullsOnce(both, 1, ENDLESS);
             both.gear(0, -2);
             pullsOnce(both, 1, 1);
+            aPartIsEndless(withDrive(FLYWHEEL, sign * 0x1p1023));
         }
         OrreryDials spring = new OrreryDials();
         spring.dial(true, bits(Double.MAX_VALUE));
@@ -191,6 +192,24 @@ public final class DriveSentencesTest extends Sentences {
         due(spring, pull(1, 0), 1);
         due(spring, pulls(0), 1);
         due(spring, pulls(1), 1);
+    }
+
+    /** What is less than endless to the other side does not bring it back. */
+    private static void aPartIsEndless(OrreryDials wheel) {
+        wheel.gear(0, 0);
+        pullsOnce(wheel, 1, 1);
+        // Twice the pull back, once on.
+        wheel.gear(0, -2);
+        pullsOnce(wheel, 1, ENDLESS);
+        // Once back, twice on.
+        wheel.gear(0, -1);
+        pullsOnce(wheel, 1, ENDLESS);
+        // Both are endless, to opposite sides.
+        wheel.gear(0, -3);
+        pullsOnce(wheel, 1, ENDLESS);
+        wheel.gear(0, -1000);
+        pullsOnce(wheel, 1, ENDLESS);
+        due(wheel, place(1, 0), 0);
     }
 
     @Says(in = "Promise 10", words = "(A DRIVE has pulled, in that case, too.)")

@@ -84,26 +84,33 @@ public final class TermSentencesTest extends Sentences {
 
     @Says(in = "What it is", words = "FLOAT and DOUBLE by those of IEEE (of a FLOAT the lowest 32;")
     static void ofAFloatTheLowest32BitsCount() {
-        long above = 0x7ff8000100000000L;
-        long seven = above | bits(7f);
-        long three = above | bits(3f);
+        for (long above : new long[] {0, 0x7ff8000100000000L, 0x8000000000000000L, 0xffffffff00000000L}) {
+            for (float sign : new float[] {1, -1}) {
+                takesTheLowest32Bits(above | bits(sign * 7) & 0xffffffffL, above | bits(sign * 3) & 0xffffffffL, sign);
+            }
+        }
+    }
+
+    private static void takesTheLowest32Bits(long seven, long three, float sign) {
         OrreryDials x = new OrreryDials();
         due(x, dial(false, three), 0);
-        due(x, place(0, 1), bits(3f));
+        due(x, place(0, 1), bits(sign * 3));
         due(x, turn(0, seven), 1);
-        due(x, place(0, 0), bits(1f));
+        due(x, place(0, 0), bits(sign));
         due(x, spin(0, three, 2), 2);
+        due(x, place(0, 0), bits(sign));
         due(x, laps(0), 4);
         due(x, log(0, false, 1), 1);
         due(x, write(0, false, 0, three), 1);
         due(x, read(0, false, 0), 1);
-        due(x, seen(), bits(3f));
+        due(x, seen(), bits(sign * 3));
         due(x, sift(0, false, seven), 1);
-        due(x, seen(), bits(1f));
+        due(x, seen(), bits(sign));
         due(x, left(false, three, seven), 1);
-        due(x, seen(), bits(3f));
-        casts(FLOAT, DOUBLE, seven, bits(7.0));
-        casts(FLOAT, FLOAT, seven, bits(7f));
+        due(x, seen(), bits(sign * 3));
+        casts(FLOAT, DOUBLE, seven, bits((double) sign * 7));
+        casts(FLOAT, FLOAT, seven, bits(sign * 7));
+        casts(FLOAT, LONG, seven, (long) sign * 7);
     }
 
     @Says(in = "What it is", words = "told as an int).")
@@ -771,13 +778,13 @@ public final class TermSentencesTest extends Sentences {
             // An heir of CRANK: it has a gear, and SHAFT 1 takes it.
             due(x, lay(1, 0, 0), 1);
         }
-        // What it pulls by is reckoned in parts, each to the nearest.
-        OrreryDials parts = drivenBy(true, 1e6, FLYWHEEL, 0.1);
-        parts.gear(0, 3);
-        double place = 0;
+        // What it pulls by is reckoned in parts, each to the nearest; from 0.0 on it is seen to its last bit.
+        OrreryDials parts = drivenBy(true, 1e6, FLYWHEEL, 1.3);
+        parts.gear(0, -3);
+        parts.log(0, true, 1);
         for (int before = 0; before < 40; before++) {
-            place += 0.1 * 3 + 0.1 * before;
-            pullsTo(parts, true, place);
+            pullsTo(parts, true, 1.3 * -3 + 1.3 * before);
+            due(parts, recall(0, true, 0, 0), 1);
         }
     }
 
@@ -964,6 +971,7 @@ public final class TermSentencesTest extends Sentences {
         refused(UNKNOWN, lay(2, 4, 0));
         refused(UNKNOWN, lay(2, 0, 0));
         refused(UNKNOWN, wind(0, 4));
+        leavesAll(after(lay(0, 0, 4)), UNKNOWN, wind(0, 4));
         refused(UNKNOWN, laid(2, 4));
         for (boolean fine : KINDS) {
             long endless = bits(fine, INFINITE);
